@@ -242,8 +242,8 @@ public final class PromiseTest {
         due("a plain one has no other group", x.points(0, 2), 2 * (26 - 9));
         add(x, 4, 0, 0, 0, 1);
         add(x, 5, 0, 0, 0, 1);
-        due("shy: those on the host", x.points(5, 0), 2 * 26 + 5);
-        due("drawn: those in the hall", x.points(6, 0), 2 * 26 + 2 * 5);
+        due("shy: those on the host", x.points(5, 0), 2 * 26 - 5);
+        due("drawn: those in the hall", x.points(6, 0), 2 * 26 - 2 * 5);
         due("drawn: none in the hall", x.points(6, 2), 2 * 26);
         x.fall(3);
         due("down", x.points(0, 3), 2 * (27 - 9));
