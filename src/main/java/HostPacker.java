@@ -359,7 +359,7 @@ public final class HostPacker {
             case 4:
                 return jobs.inState(ENDED);
             case 5:
-                return hosts.standing();
+                return hosts.upNow();
             case 6:
                 return jobs.targets();
             case 7:
@@ -453,12 +453,12 @@ public final class HostPacker {
             return host;
         }
 
-        int standing() {
-            int standing = 0;
+        int upNow() {
+            int many = 0;
             for (int host = 0; host < number; host++) {
-                standing += up[host] ? 1 : 0;
+                many += up[host] ? 1 : 0;
             }
-            return standing;
+            return many;
         }
     }
 
@@ -609,7 +609,9 @@ public final class HostPacker {
             if (isUneven(job, host)) {
                 return 6;
             }
-            if (isWrongCompany(job, host)) {
+            int kind = jobs.kind[job];
+            int others = others(job, host);
+            if (kind == SHY && others > 0 || kind == DRAWN && others == 0) {
                 return 7;
             }
             return shyOnHost[host * GROUPS + jobs.group[job]] > 0 ? 8 : 0;
@@ -633,14 +635,6 @@ public final class HostPacker {
                 }
             }
             return false;
-        }
-
-        private boolean isWrongCompany(int job, int host) {
-            int kind = jobs.kind[job];
-            if (kind == SHY) {
-                return others(job, host) > 0;
-            }
-            return kind == DRAWN && others(job, host) == 0;
         }
 
         /** How many of its OTHER group a job would be with: a DRAWN one looks at the whole hall. */
@@ -887,8 +881,12 @@ public final class HostPacker {
             see(code, code);
         }
 
+        boolean isUnseen(int code) {
+            return isBelow(code, CODES) && from[code] == UNSEEN;
+        }
+
         private void see(int code, int before) {
-            if (isBelow(code, CODES) && lined < CODES && from[code] == UNSEEN) {
+            if (isUnseen(code) && lined < CODES) {
                 from[code] = before;
                 line[lined] = code;
                 lined++;
@@ -897,43 +895,32 @@ public final class HostPacker {
 
         /** Lines up all unseen codes that one move leads to, in order of jobs, then hosts. */
         void lineUpNext(int code) {
-            stand(code);
+            for (int k = 0; k < size; k++) {
+                put(k, hostIn(code, k));
+            }
             for (int k = 0; k < size; k++) {
                 int home = at[k];
                 if (fallen == NOWHERE || home == fallen) {
-                    countOut(k);
-                    lineUpMoves(code, k);
-                    countIn(k, home);
+                    put(k, fallen);
+                    for (int host = 0; host < floor.hosts.number; host++) {
+                        int next = code + (host - home) * POWERS[k];
+                        if (isUnseen(next) && floor.fits(member[k], host)) {
+                            see(next, code);
+                        }
+                    }
+                    put(k, home);
                 }
             }
         }
 
-        private void lineUpMoves(int code, int k) {
-            for (int host = 0; host < floor.hosts.number; host++) {
-                int next = code + (host - at[k]) * POWERS[k];
-                if (isBelow(next, CODES) && from[next] == UNSEEN && floor.fits(member[k], host)) {
-                    see(next, code);
-                }
+        /** Who is put on the fallen host, or nowhere where none has fallen, does not count. */
+        private void put(int k, int host) {
+            if (host == at[k]) {
+                return;
             }
-        }
-
-        private void stand(int code) {
-            for (int k = 0; k < size; k++) {
-                int host = hostIn(code, k);
-                if (host != at[k]) {
-                    countOut(k);
-                    countIn(k, host);
-                }
-            }
-        }
-
-        private void countOut(int k) {
             if (at[k] != fallen) {
                 floor.tally(member[k], at[k], -1);
             }
-        }
-
-        private void countIn(int k, int host) {
             at[k] = host;
             if (host != fallen) {
                 floor.tally(member[k], host, 1);
@@ -979,14 +966,21 @@ public final class HostPacker {
 
         int firstUnsafe() {
             for (int host = 0; host < hosts.number; host++) {
-                if (hosts.up[host] && !survives(host)) {
-                    return host;
+                if (hosts.up[host]) {
+                    letFall(host);
+                    boolean all = allFindHosts();
+                    hosts.up[host] = true;
+                    floor.recount();
+                    if (!all) {
+                        return host;
+                    }
                 }
             }
             return NOWHERE;
         }
 
-        private boolean survives(int host) {
+        /** As if it fell: those that would wait then are the crew, still told to be there. */
+        private void letFall(int host) {
             hosts.up[host] = false;
             crew.begin(host);
             for (int job = 0; job < jobs.number; job++) {
@@ -997,10 +991,6 @@ public final class HostPacker {
                     }
                 }
             }
-            boolean all = allFindHosts();
-            hosts.up[host] = true;
-            floor.recount();
-            return all;
         }
 
         /** The latest seen is looked at first: that way a place for all is found soon. */
@@ -1072,7 +1062,7 @@ public final class HostPacker {
             crew.lookFrom(crew.code());
             int looked = 0;
             for (int moves = 0; moves < MOST_MOVES; moves++) {
-                if (crew.from[goal] != Crew.UNSEEN) {
+                if (!crew.isUnseen(goal)) {
                     return moves;
                 }
                 int seen = crew.lined;
@@ -1080,7 +1070,7 @@ public final class HostPacker {
                     crew.lineUpNext(crew.line[looked]);
                 }
             }
-            return crew.from[goal] != Crew.UNSEEN ? MOST_MOVES : NONE;
+            return crew.isUnseen(goal) ? NONE : MOST_MOVES;
         }
 
         private void noteSteps(int goal, int moves) {
