@@ -654,8 +654,8 @@ public final class HostPacker {
                 room -= tooMuch(job, host, i);
             }
             int own = groupOnHost[host * GROUPS + jobs.group[job]];
-            // "less .., and ..": both are taken off, those of the OTHER group too.
-            return weights[0] * room - weights[1] * own - weights[2] * others(job, host);
+            // "less w1 times .., and w2 times ..": only its own GROUP is taken off.
+            return weights[0] * room - weights[1] * own + weights[2] * others(job, host);
         }
 
         int bestHost(int job) {

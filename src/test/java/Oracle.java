@@ -160,7 +160,7 @@ final class Oracle {
                 own += t.state == 1 && t.on == host && t.group == job.group ? 1 : 0;
             }
             int points = w[0] * room - w[1] * own;
-            return job.kind >= 4 ? points - w[2] * others(job, host) : points;
+            return job.kind >= 4 ? points + w[2] * others(job, host) : points;
         }
 
         int best(int number) {

@@ -242,8 +242,9 @@ public final class PromiseTest {
         due("a plain one has no other group", x.points(0, 2), 2 * (26 - 9));
         add(x, 4, 0, 0, 0, 1);
         add(x, 5, 0, 0, 0, 1);
-        due("shy: those on the host", x.points(5, 0), 2 * 26 - 5);
-        due("drawn: those in the hall", x.points(6, 0), 2 * 26 - 2 * 5);
+        due("shy: those on the host", x.points(5, 0), 2 * 26 + 5);
+        due("shy: not those in the hall", x.points(5, 3), 2 * 27);
+        due("drawn: those in the hall", x.points(6, 0), 2 * 26 + 2 * 5);
         due("drawn: none in the hall", x.points(6, 2), 2 * 26);
         x.fall(3);
         due("down", x.points(0, 3), 2 * (27 - 9));
@@ -256,6 +257,32 @@ public final class PromiseTest {
         for (int far : FAR) {
             due("job " + far, x.points(far, 0), -1000001);
             due("host " + far, x.points(0, far), -1000001);
+        }
+    }
+
+    /** Only its own GROUP is taken off: the OTHER group's term has the sign of its weight. */
+    private static void pointsOfOthers() {
+        for (int kind = 0; kind < 6; kind++) {
+            int sign = kind >= 4 ? 1 : 0;
+            HostPacker x = new HostPacker();
+            x.host(6, 6, 3, 1, 0);
+            x.host(6, 6, 3, 1, 0);
+            add(x, 0, 0, 0, 0, 0);
+            add(x, 0, 0, 0, 7, 0);
+            add(x, kind, 0, 0, 0, 7);
+            add(x, kind, 0, 0, 7, 7);
+            due("place", x.place(0), 0);
+            due("place", x.place(1), 0);
+            due("one of each group, kind " + kind, x.points(2, 0), 15 - 10 + sign * 5);
+            due("own and other are one group", x.points(3, 0), 15 - 10 + sign * 5);
+            due("beside them in the hall", x.points(2, 1), 15 + (kind == 5 ? 5 : 0));
+            due("w2", x.weight(2, -7), 5);
+            due("less by a weight below 0", x.points(2, 0), 15 - 10 - sign * 7);
+            due("w1", x.weight(1, -4), 10);
+            due("more by a weight below 0", x.points(2, 0), 15 + 4 - sign * 7);
+            due("w2", x.weight(2, 100), -7);
+            due("w0", x.weight(0, 0), 1);
+            due("others alone", x.points(2, 0), 4 + sign * 100);
         }
     }
 
@@ -342,6 +369,23 @@ public final class PromiseTest {
         add(x, 0, 900, 9, 0, 0);
         due("no host at all", x.place(5), -3);
         due("and so it waits", x.told(5, 0), 0);
+    }
+
+    /** Two of the OTHER group are in hall 0 (hosts 0, 1), one is in hall 1 (host 2). */
+    private static void placeNearOthers() {
+        for (int w2 = -100; w2 <= 100; w2 += 50) {
+            HostPacker x = threeHalls();
+            for (int i = 0; i < 3; i++) {
+                add(x, 0, 1, 0, 3, 0);
+                due("place", x.place(i), i);
+            }
+            add(x, 5, 1, 0, 4, 3);
+            add(x, 4, 1, 0, 4, 3);
+            x.weight(2, w2);
+            due("not among others", x.why(3, 3), 7);
+            due("drawn by w2 " + w2, x.place(3), w2 < 0 ? 2 : 0);
+            due("shy ones fit beside none of them", x.place(4), 3);
+        }
     }
 
     /** Fills hosts, that hold one job of 6 and one of 4 each, with the priorities told. */
@@ -1091,12 +1135,14 @@ public final class PromiseTest {
         whyCompany();
         promise = 6;
         points();
+        pointsOfOthers();
         promise = 7;
         left();
         promise = 8;
         told();
         promise = 9;
         placeOnBest();
+        placeNearOthers();
         placeAsking();
         placeAskingRules();
         promise = 10;
