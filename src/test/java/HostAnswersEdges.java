@@ -148,6 +148,16 @@ final class HostAnswersEdges {
         x.rise(2);
         Check.due("it has one again", x.why(set, 1), 6);
         Check.due("and room for one", x.why(set, 2), 0);
+        for (int lacks = 0; lacks < 10; lacks++) {
+            x = new HostPacker();
+            for (int host = 0; host < 10; host++) {
+                x.host(9, 9, 9, host == lacks ? 4 : 3, 0);
+            }
+            set = Make.job(x, 1, 0, 0, 2, 0, 0);
+            Make.put(x, Make.job(x, 1, 0, 0, 2, 0, 0), lacks == 0 ? 1 : 0);
+            Check.due("none in the hall of host " + lacks, x.why(set, 5), lacks == 5 ? 0 : 6);
+            Check.due("room for one on host " + lacks, x.why(set, lacks), 0);
+        }
         x = Make.halls(3);
         for (int i = 0; i < 5; i++) {
             Make.standing(x, 1, 0, 0, 2, 0, 0);

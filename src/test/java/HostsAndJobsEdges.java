@@ -1,6 +1,6 @@
 /** Promises 1 to 8, and what the terms say of hosts and jobs: a test for each edge that they name. */
 final class HostsAndJobsEdges {
-    private static final int BAD = -1, NOT = -2, NONE = -3;
+    private static final int BAD = -1, NOT = -2;
 
     private HostsAndJobsEdges() {
     }

@@ -1,13 +1,14 @@
 /** Promises 21 and 22, the fewest hosts and the least change, with FEWEST and WOULD of the terms. */
 final class LeastEdges {
     private static final int BAD = -1, NOT = -2, NONE = -3, GREAT = -4;
-    private static final String FEWEST = "FEWEST: how few HOSTS all JOBS that STAND and are not FIXED could STAND on, if all "
-            + "of them were taken away and placed anew, in order of numbers, on any HOSTS on which they FIT then "
+    private static final String FEWEST = "FEWEST: how few HOSTS all JOBS that STAND and are not FIXED "
+            + "could STAND on, if all of them were taken away and placed anew, in order of numbers, on any HOSTS on which they FIT then "
             + "(HOSTS with FIXED ones count, if one of the others is placed there)";
-    private static final String WOULD = "WOULD, for a JOB that FITS nowhere: the least change after which it FITS on an UP "
-            + "HOST, of these the first";
+    private static final String WOULD = "WOULD, for a JOB that FITS nowhere: the least change after which "
+            + "it FITS on an UP HOST, of these the first";
     private static final String TAINT = "1 one taint more TOLERATED (the least bit, then the least HOST)";
-    private static final String LESS = "2 one AMOUNT asked less, by as much as it is too much (the least much, then the least HOST)";
+    private static final String LESS = "2 one AMOUNT asked less, by as much as it is too much "
+            + "(the least much, then the least HOST)";
     private static final String GONE = "3 one JOB that STANDS gone (the least number, then the least HOST)";
 
     private LeastEdges() {
@@ -336,7 +337,8 @@ final class LeastEdges {
     }
 
     private static void wouldNumbers() {
-        Check.says(22, "WOULD: 0 which change (1 .. 3), 1 the bit of the taint, the AMOUNT (0 .. 2), the JOB, 2 the HOST, 3 how much (of 2");
+        Check.says(22, "WOULD: 0 which change (1 .. 3), 1 the bit of the taint, the AMOUNT (0 .. 2), the JOB, "
+                + "2 the HOST, 3 how much (of 2");
         Check.says(22, "else 0)");
         HostPacker x = Make.many(9, 0);
         x.host(5, 5, 5, 0, 0);
@@ -349,13 +351,29 @@ final class LeastEdges {
         x.job(0, 0, 0, 0, 0, 0, 0, 0);
         would("the greatest job that can go", x, 0, 2, 0, 0, 5);
 
+        x = Make.halls(0);
+        Make.job(x, 4, 0, 0, 6, 5, 255);
+        for (int i = 1; i < 24; i++) {
+            Make.standing(x, 0, 0, 0, i == 23 ? 5 : 4, 0, 0);
+        }
+        would("the last of 24 jobs would have to go", x, 0, 3, 23, 0, 0);
+        x.end(1);
+        x.undo();
+        x.undo();
+        x.undo();
+        Make.job(x, 5, 0, 0, 6, 7, 255);
+        Check.due("none of 24 would", x.would(23, 0), NONE);
+        x.undo();
+        Make.plain(x, 1000, 255);
+        would("an amount of the last", x, 23, 2, 0, 0, 900);
+
         Check.says(22, "BAD");
         for (int wrong : Make.outside(0, 23)) {
             Check.due("job " + wrong, x.would(wrong, 0), BAD);
         }
         for (int wrong : Make.outside(0, 3)) {
             Check.due("what " + wrong, x.would(23, wrong), BAD);
-            Check.due("BAD before NOT", x.would(22, wrong), BAD);
+            Check.due("BAD before NOT", x.would(1, wrong), BAD);
         }
     }
 

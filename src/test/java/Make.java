@@ -120,6 +120,31 @@ final class Make {
         return x;
     }
 
+    /** One of each kind that stands, and some that wait and look at who stands there. */
+    static HostPacker mixed() {
+        HostPacker x = Make.halls(0, 1, 1);
+        standing(x, 1, 20, 1, 2, 0, 0);
+        job(x, 2, 20, 2, 3, 0, on(1));
+        Check.due("a gang", x.gang(3), 1);
+        standing(x, 0, 20, 3, 6, 0, 1);
+        standing(x, 4, 20, 4, 1, 7, 1);
+        standing(x, 3, 20, 5, 4, 0, 2);
+        put(x, job(x, 5, 20, 6, 5, 6, ANY), 2);
+        job(x, 1, 0, 0, 2, 0, ANY);
+        job(x, 2, 0, 0, 3, 0, ANY);
+        job(x, 2, 0, 0, 3, 0, on(1));
+        job(x, 4, 0, 0, 5, 6, ANY);
+        job(x, 5, 0, 0, 6, 4, ANY);
+        job(x, 5, 0, 0, 7, 2, ANY);
+        job(x, 0, 0, 0, 7, 0, ANY);
+        job(x, 5, 0, 0, 0, 0, ANY);
+        job(x, 2, 0, 0, 3, 0, on(1));
+        x.target(2, 1);
+        x.target(5, 1);
+        Check.due("a plan", x.plan(), 1);
+        return x;
+    }
+
     /** As many of all as there can be: 10 hosts, 24 jobs that stand, 30 calls to undo, 5 targets. */
     static HostPacker full() {
         HostPacker x = many(10, 24);
@@ -138,19 +163,19 @@ final class Make {
     /** All that an object tells of how things are; its targets and weights are gone after that. */
     static List<Integer> toldNow(HostPacker x) {
         List<Integer> all = toldOfCounts(x);
-        int waiting = -1;
         for (int job = x.count(1) - 1; job >= 0; job--) {
             for (int what = 0; what < 6; what++) {
                 all.add(x.told(job, what));
             }
-            waiting = x.told(job, 0) == 0 ? job : waiting;
+            for (int host = 0; host < x.count(0) && x.told(job, 0) == 0; host++) {
+                all.add(x.why(job, host));
+                all.add(x.points(job, host));
+            }
         }
         for (int host = 0; host < x.count(0); host++) {
             for (int i = 0; i < 3; i++) {
                 all.add(x.left(host, i));
             }
-            all.add(x.why(waiting, host));
-            all.add(x.points(waiting, host));
         }
         all.add(x.plan());
         toldOfSteps(x, all);

@@ -85,7 +85,8 @@ final class PlacingEdges {
     }
 
     private static void bestHost() {
-        Check.says(0, "THE BEST HOST for a JOB: of those on which it FITS the one of most POINTS, of these the least number");
+        Check.says(0, "THE BEST HOST for a JOB: of those on which it FITS the one of most POINTS, "
+                + "of these the least number");
         HostPacker x = Make.hosts(5, 7, 9, 9, 7);
         int job = Make.plain(x, 1, Make.ANY);
         Check.due("of two with the most the first", x.place(job), 2);
@@ -113,7 +114,8 @@ final class PlacingEdges {
     }
 
     private static void askingWhom() {
-        Check.says(0, "on each HOST, JOBS that STAND there, with a lesser PRIORITY, not FIXED, are taken away one by one");
+        Check.says(0, "on each HOST, JOBS that STAND there, with a lesser PRIORITY, not FIXED, "
+                + "are taken away one by one");
         for (int one = 0; one < 10; one++) {
             for (int another = 0; another < 10; another++) {
                 HostPacker x = Make.hosts(9);
@@ -296,6 +298,14 @@ final class PlacingEdges {
             Check.due("fill", x.place(job), i);
         }
         Check.due("the last of ten hosts", x.place(Make.job(x, 0, 5, 9, 0, 0, 0)), 9);
+        for (int i = 11; i < 23; i++) {
+            Make.plain(x, 0, 0);
+        }
+        int last = Make.job(x, 0, 5, 9, 0, 0, 0);
+        Check.due("the last of 24 jobs asks", x.place(last), 0);
+        x.fall(0);
+        Check.due("it asks another", x.place(last), 1);
+        Check.due("all that stand are as great as it, or do not do", x.place(9), NONE);
     }
 
     private static void askingByFixed() {
@@ -361,6 +371,11 @@ final class PlacingEdges {
         Make.job(x, 2, 0, 0, 0, 0, Make.ANY);
         x.gang(0);
         Check.due("a gang is no place()", x.gone(), 1);
+        x.undo();
+        x.undo();
+        x.undo();
+        Check.due("who went stands again", x.told(0, 0), 1);
+        Check.due("undo() is no place()", x.gone(), 1);
     }
 
     private static void gangNumbers() {
@@ -408,7 +423,8 @@ final class PlacingEdges {
     }
 
     private static void gangInOrder() {
-        Check.says(0, "A GANG is all JOBS of KIND 2 of a GROUP that WAIT, in order of numbers: each on its BEST HOST, one after the other (nobody GOES)");
+        Check.says(0, "A GANG is all JOBS of KIND 2 of a GROUP that WAIT, in order of numbers: "
+                + "each on its BEST HOST, one after the other (nobody GOES)");
         HostPacker x = Make.hosts(9, 9, 8);
         Make.job(x, 2, 3, 0, 1, 0, Make.ANY);
         Make.job(x, 0, 1, 0, 1, 0, Make.ANY);
@@ -581,7 +597,8 @@ final class PlacingEdges {
     }
 
     private static void moveNumbers() {
-        Check.says(15, "A JOB that STANDS is moved to a HOST on which it FITS (as if it WAITED): the HOST where it was");
+        Check.says(15, "A JOB that STANDS is moved to a HOST on which it FITS (as if it WAITED): "
+                + "the HOST where it was");
         HostPacker x = Make.many(10, 5);
         for (int i = 0; i < 24; i++) {
             Make.plain(x, i == 23 ? 5 : 0, 0);

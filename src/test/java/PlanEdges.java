@@ -250,6 +250,20 @@ final class PlanEdges {
         Check.due("five, all there already", x.plan(), GREAT);
         x.target(3, -1);
         plan("four, all there already", x);
+        HostPacker y = Make.many(10, 4);
+        for (int i = 0; i < 4; i++) {
+            Make.put(y, Make.plain(y, 1, 0), i / 2);
+            y.target(i, 9);
+        }
+        plan("four to the last of ten hosts", y, 0, 9, 1, 9, 2, 9, 3, 9);
+        for (int i = 0; i < 4; i++) {
+            y.move(i, 9);
+            y.target(i, 0);
+        }
+        plan("four from the last of ten to the first", y, 0, 0, 1, 0, 2, 0, 3, 0);
+        Make.put(y, Make.plain(y, 1, 0), 0);
+        Check.due("no room for all four", y.plan(), NONE);
+
         x.target(3, 0);
         Check.due("five again", x.plan(), GREAT);
     }

@@ -1,8 +1,11 @@
 import java.util.Random;
 
-/** Runs of calls drawn from fixed seeds, each call asked of HostPacker and of the Oracle. */
+/**
+ * Runs of calls drawn from fixed seeds, each call asked of HostPacker and of the Oracle. No object
+ * is asked more often than the document says that one is used.
+ */
 public final class RandomRunsTest {
-    private static final int RUNS = 2500;
+    private static final int RUNS = 20000;
     private static final int CALLS = 512;
     private static final int[] WRONG = {-2, -1, 24, 25, 10, 8, 1001, 256, 100000,
         Integer.MAX_VALUE, Integer.MIN_VALUE, -1000000};
@@ -17,7 +20,7 @@ public final class RandomRunsTest {
     private final int amount;
     private final int taintBits;
     private final boolean searches;
-    private String last = "";
+    private int calls;
 
     private RandomRunsTest(int seed) {
         this.seed = seed;
@@ -49,8 +52,12 @@ public final class RandomRunsTest {
         return below(40) == 0 ? hosts : arg(Math.max(1, hosts));
     }
 
+    /** What is answered after the last call that is promised is free. */
     private void due(String call, int got, int want) {
-        Check.due("seed " + seed + ": " + call, got, want);
+        calls++;
+        if (calls <= CALLS) {
+            Check.due("seed " + seed + ", call " + calls + ": " + call, got, want);
+        }
     }
 
     private void addHost() {
@@ -157,43 +164,45 @@ public final class RandomRunsTest {
         }
     }
 
-    private void compareAll() {
+    /** Each count, each job with its reason and points on one host, one amount of each host. */
+    private void compareMuch() {
         for (int what = -1; what <= 8; what++) {
             due("count " + what, packer.count(what), oracle.count(what));
         }
+        int some = below(10);
         for (int job = 0; job < oracle.count(1); job++) {
-            for (int what = 0; what < 6; what++) {
-                due("told " + job + " " + what, packer.told(job, what), oracle.told(job, what));
-            }
-            for (int host = 0; host < oracle.count(0); host++) {
-                due("why", packer.why(job, host), oracle.why(job, host));
-                due("points", packer.points(job, host), oracle.points(job, host));
-            }
+            due("state of " + job, packer.told(job, 0), oracle.told(job, 0));
+            due("host of " + job, packer.told(job, 1), oracle.told(job, 1));
+            due("turn of " + job, packer.told(job, 2), oracle.told(job, 2));
+            int host = (job + some) % 10;
+            due("why " + job + " " + host, packer.why(job, host), oracle.why(job, host));
+            due("points " + job + " " + host, packer.points(job, host), oracle.points(job, host));
         }
         for (int host = 0; host < oracle.count(0); host++) {
-            for (int i = 0; i < 3; i++) {
-                due("left", packer.left(host, i), oracle.left(host, i));
-            }
+            int i = (host + some) % 3;
+            due("left " + host + " " + i, packer.left(host, i), oracle.left(host, i));
         }
     }
 
     private void run() {
-        for (int i = 0; i < CALLS && Check.wrong() == 0; i++) {
+        int next = 60 + below(CALLS);
+        while (calls < CALLS && Check.wrong() == 0) {
             int hosts = oracle.count(0);
             int dice = below(100);
             if (hosts < mostHosts && dice < 12 || dice == 0) {
                 addHost();
             } else if (dice < 26) {
                 addJob();
-            } else if (dice < 85) {
+            } else if (dice < 92) {
                 change();
             } else if (dice < 97 || !searches && dice < 99) {
                 look();
             } else {
                 search();
             }
-            if (i % 16 == 0) {
-                compareAll();
+            if (calls > next) {
+                compareMuch();
+                next = calls + 60 + below(CALLS);
             }
         }
     }

@@ -15,6 +15,7 @@ final class RefusalEdges {
         whatWouldBe();
         full();
         accepted();
+        acceptedAmongAllKinds();
         order();
     }
 
@@ -178,6 +179,24 @@ final class RefusalEdges {
         unchanged("why", Make::busy, 3, x -> x.why(9, 0));
         Check.says(6, "POINTS of a HOST for a JOB (whether it FITS or not)");
         unchanged("points", Make::busy, 300 - 37 - 8, x -> x.points(10, 0));
+    }
+
+    /** The same where each kind stands, and others of each kind wait. */
+    private static void acceptedAmongAllKinds() {
+        Check.says(0, "(each FITS when it is placed; others stay)");
+        unchanged("worst", Make::mixed, 0, HostPacker::worst);
+        unchanged("safe", Make::mixed, 0, HostPacker::safe);
+        Check.says(0, "from how JOBS STAND to told HOSTS for some of them (TARGETS)");
+        unchanged("plan", Make::mixed, 1, HostPacker::plan);
+        Check.says(0, "if all of them were taken away and placed anew");
+        unchanged("fewest", Make::mixed, 2, HostPacker::fewest);
+        Check.says(0, "the least change after which it FITS on an UP HOST");
+        unchanged("would", Make::mixed, 1, x -> x.would(8, 0));
+        Check.says(22, "NONE: no such change");
+        unchanged("would", Make::mixed, NONE, x -> x.would(13, 0));
+        Check.says(0, "What is refused changes nothing");
+        unchanged("gang", Make::mixed, NONE, x -> x.gang(3));
+        unchanged("move", Make::mixed, NONE, x -> x.move(0, 1));
     }
 
     private static void order() {

@@ -1,8 +1,8 @@
 /** Promises 16 and 17, whether all would have a place if a host fell, with SAFE of the terms. */
 final class SafeEdges {
     private static final int NONE = -3, GREAT = -4;
-    private static final String SAFE = "SAFE: for each UP HOST, if it fell, all its JOBS but FIXED ones could STAND on other "
-            + "UP HOSTS, in some order of placing them there (each FITS when it is placed; others stay)";
+    private static final String SAFE = "SAFE: for each UP HOST, if it fell, all its JOBS but FIXED ones could "
+            + "STAND on other UP HOSTS, in some order of placing them there (each FITS when it is placed; others stay)";
 
     private SafeEdges() {
     }
@@ -68,6 +68,18 @@ final class SafeEdges {
         Check.due("nothing has moved", x.told(3, 1), 0);
         Check.due("nothing is taken", x.left(4, 0), 5);
         Check.due("all are up", x.count(5), 5);
+        for (int first = 0; first < 10; first += 9) {
+            x = new HostPacker();
+            for (int host = 0; host < 10; host++) {
+                x.host(host == 0 || host == 9 ? 4 : 0, 4, 4, 0, 0);
+            }
+            for (int i = 0; i < 4; i++) {
+                Make.put(x, Make.plain(x, 1, 0), first);
+            }
+            due("all four from the one end to the other", x, NONE);
+            Make.put(x, Make.plain(x, 1, 0), 9 - first);
+            due("but for one", x, 0);
+        }
         x = Make.hosts(14, 2, 3, 4, 4);
         for (int asks = 5; asks > 1; asks--) {
             Make.put(x, Make.plain(x, asks, Make.ANY), 0);

@@ -1,9 +1,26 @@
 import java.util.List;
+import java.util.function.Supplier;
 import java.util.function.ToIntFunction;
 
 /** Promises 23 and 24, undo and count, and how many calls an object is used for. */
 final class UndoEdges {
-    private static final int BAD = -1, NOT = -2, NONE = -3, GREAT = -4;
+    private static final int BAD = -1, NOT = -2, NONE = -3;
+    private static final String LATEST = "The latest accepted host(), job(), weight(), place(), gang(), end(), "
+            + "fall(), rise(), move(), target() is taken back";
+    private static final String HOW_MANY = "How many: 0 HOSTS, 1 JOBS, 2 that WAIT, 3 STAND, 4 have ENDED, "
+            + "5 HOSTS that are UP, 6 TARGETS, 7 what can be undone";
+    /** Accepted calls of all kinds, more than can be taken back. */
+    private static final List<ToIntFunction<HostPacker>> SCRIPT = List.of(
+            x -> x.host(20, 20, 20, 0, 0), x -> x.host(20, 20, 20, 1, 1),
+            x -> x.job(0, 5, 1, 1, 1, 1, 1, 0), x -> x.job(3, 5, 1, 1, 0, 1, 0, 0),
+            x -> x.job(2, 5, 1, 1, 3, 2, 1, 0), x -> x.job(2, 5, 1, 1, 3, 2, 1, 0),
+            x -> x.place(0), x -> x.place(1), x -> x.gang(2), x -> x.weight(1, -4), x -> x.target(0, 1),
+            x -> x.move(0, 1 - x.told(0, 1)), x -> x.host(1, 2, 3, 4, 5),
+            x -> x.job(0, 18, 1, 1, 9, 3, 255, 0), x -> x.place(4), x -> x.fall(0), x -> x.target(2, 0),
+            x -> x.rise(0), x -> x.place(0), x -> x.end(4), x -> x.gang(2), x -> x.fall(1),
+            x -> x.job(4, 0, 0, 0, 5, 5, 0, 6), x -> x.place(5), x -> x.weight(0, 0), x -> x.target(0, -1),
+            x -> x.end(5), x -> x.rise(1), x -> x.weight(2, 50), x -> x.fall(2), x -> x.host(9, 9, 9, 3, 0),
+            x -> x.job(5, 1, 1, 1, 1, 1, 1, 1), x -> x.rise(2), x -> x.place(6));
 
     private UndoEdges() {
     }
@@ -11,6 +28,7 @@ final class UndoEdges {
     static void check() {
         nothingToUndo();
         eachCall();
+        eachKind();
         onlyAccepted();
         thirtyAtMost();
         noneTwice();
@@ -37,23 +55,27 @@ final class UndoEdges {
 
     /** Two objects are made by the same calls; what one did besides is undone; they must tell the same. */
     private static void undone(String what, int due, ToIntFunction<HostPacker> call) {
-        HostPacker x = Make.busy();
+        undone(what, Make::busy, due, call);
+    }
+
+    private static void undone(String what, Supplier<HostPacker> world, int due, ToIntFunction<HostPacker> call) {
+        HostPacker x = world.get();
         int kept = x.count(7);
         Check.due(what, call.applyAsInt(x), due);
         Check.due(what + ": one more", x.count(7), kept + 1);
         Check.due(what + ": undone", x.undo(), kept);
-        Check.due(what + ": all is as it was", Make.toldNow(x).equals(Make.toldNow(Make.busy())));
-        x = Make.busy();
+        Check.due(what + ": all is as it was", Make.toldNow(x).equals(Make.toldNow(world.get())));
+        x = world.get();
         call.applyAsInt(x);
         x.undo();
         Check.due(what + ": done once more", call.applyAsInt(x), due);
-        HostPacker once = Make.busy();
+        HostPacker once = world.get();
         call.applyAsInt(once);
         Check.due(what + ": as if done once", Make.toldNow(x).equals(Make.toldNow(once)));
     }
 
     private static void eachCall() {
-        Check.says(23, "The latest accepted host(), job(), weight(), place(), gang(), end(), fall(), rise(), move(), target() is taken back");
+        Check.says(23, LATEST);
         undone("host", 4, x -> x.host(5, 6, 7, 0, 0));
         undone("job", 13, x -> x.job(3, 5, 6, 7, 1, 2, 3, 4));
         undone("weight 0", 1, x -> x.weight(0, 100));
@@ -74,8 +96,24 @@ final class UndoEdges {
         undone("no target, as it was", 2, x -> x.target(0, -1));
     }
 
+    private static void eachKind() {
+        Check.says(23, LATEST);
+        undone("place a set one", Make::mixed, 2, x -> x.place(6));
+        undone("place a shy one", Make::mixed, 0, x -> x.place(9));
+        undone("place a drawn one", Make::mixed, 0, x -> x.place(11));
+        undone("place a plain one", Make::mixed, 0, x -> x.place(12));
+        undone("end a set one", Make::mixed, 1, x -> x.end(0));
+        undone("end a gang one", Make::mixed, 1, x -> x.end(1));
+        undone("end a plain one", Make::mixed, 1, x -> x.end(2));
+        undone("end a shy one", Make::mixed, 1, x -> x.end(3));
+        undone("end a fixed one", Make::mixed, 1, x -> x.end(4));
+        undone("fall", Make::mixed, 3, x -> x.fall(1));
+        undone("fall with a fixed one", Make::mixed, 1, x -> x.fall(2));
+        undone("move a drawn one", Make::mixed, 2, x -> x.move(5, 1));
+    }
+
     private static void onlyAccepted() {
-        Check.says(23, "The latest accepted host(), job(), weight(), place(), gang(), end(), fall(), rise(), move(), target() is taken back");
+        Check.says(23, LATEST);
         HostPacker x = Make.hosts(9, 9);
         Make.standing(x, 9, 0);
         x.host(1, 1, 1, 5, 1);
@@ -150,36 +188,25 @@ final class UndoEdges {
         Check.due("thirty again", x.count(7), 30);
     }
 
-    /** Accepted calls of all kinds; after each undo all is as it was before the call. */
-    private static HostPacker script(int calls) {
+    private static HostPacker afterCalls(int calls) {
         HostPacker x = new HostPacker();
-        List<ToIntFunction<HostPacker>> script = List.of(
-                y -> y.host(20, 20, 20, 0, 0), y -> y.host(20, 20, 20, 1, 1), y -> y.job(0, 5, 1, 1, 1, 1, 1, 0),
-                y -> y.job(3, 5, 1, 1, 0, 1, 0, 0), y -> y.job(2, 5, 1, 1, 3, 2, 1, 0), y -> y.job(2, 5, 1, 1, 3, 2, 1, 0),
-                y -> y.place(0), y -> y.place(1), y -> y.gang(2), y -> y.weight(1, -4), y -> y.target(0, 1),
-                y -> y.move(0, y.told(0, 1) == 0 ? 1 : 0), y -> y.host(1, 2, 3, 4, 5), y -> y.job(0, 18, 1, 1, 9, 3, 255, 0),
-                y -> y.place(4), y -> y.fall(0), y -> y.target(2, 0), y -> y.rise(0), y -> y.place(0), y -> y.end(4),
-                y -> y.gang(2), y -> y.fall(1), y -> y.job(4, 0, 0, 0, 5, 5, 0, 6), y -> y.place(5), y -> y.weight(0, 0),
-                y -> y.target(0, -1), y -> y.end(5), y -> y.rise(1), y -> y.weight(2, 50), y -> y.fall(2),
-                y -> y.host(9, 9, 9, 3, 0), y -> y.job(5, 1, 1, 1, 1, 1, 1, 1), y -> y.rise(2), y -> y.place(6));
         for (int i = 0; i < calls; i++) {
-            Check.due("call " + i, i >= script.size() || script.get(i).applyAsInt(x) >= -999);
+            Check.due("call " + i + " is accepted", SCRIPT.get(i).applyAsInt(x) >= 0);
         }
         return x;
     }
 
     private static void backThroughAll() {
         Check.says(23, "is taken back (30 at most, none twice): how many are left");
-        int all = 34;
-        HostPacker full = script(all);
-        Check.due("more than thirty were accepted", full.count(7), 30);
+        int all = SCRIPT.size();
+        Check.due("more than thirty are accepted", all > 30);
         for (int back = 0; back <= 30; back++) {
-            HostPacker x = script(all);
+            HostPacker x = afterCalls(all);
             for (int i = 1; i <= back; i++) {
                 Check.due("undo", x.undo(), 30 - i);
             }
-            HostPacker before = script(all - back);
-            Check.due(back + " taken back", Make.toldNow(x).equals(Make.toldNow(before)));
+            boolean same = Make.toldNow(x).equals(Make.toldNow(afterCalls(all - back)));
+            Check.due(back + " taken back", same);
         }
     }
 
@@ -208,7 +235,7 @@ final class UndoEdges {
         for (int wrong : Make.outside(0, 7)) {
             Check.due("what " + wrong, x.count(wrong), BAD);
         }
-        Check.says(24, "How many: 0 HOSTS, 1 JOBS, 2 that WAIT, 3 STAND, 4 have ENDED, 5 HOSTS that are UP, 6 TARGETS, 7 what can be undone");
+        Check.says(24, HOW_MANY);
         int[] due = {4, 13, 6, 6, 1, 3, 2, 29};
         for (int what = 0; what < 8; what++) {
             Check.due("what " + what, x.count(what), due[what]);
@@ -216,7 +243,7 @@ final class UndoEdges {
     }
 
     private static void countNone() {
-        Check.says(24, "How many: 0 HOSTS, 1 JOBS, 2 that WAIT, 3 STAND, 4 have ENDED, 5 HOSTS that are UP, 6 TARGETS, 7 what can be undone");
+        Check.says(24, HOW_MANY);
         HostPacker x = new HostPacker();
         for (int what = 0; what < 8; what++) {
             Check.due("what " + what, x.count(what), 0);
@@ -229,7 +256,7 @@ final class UndoEdges {
     }
 
     private static void countFull() {
-        Check.says(24, "How many: 0 HOSTS, 1 JOBS, 2 that WAIT, 3 STAND, 4 have ENDED, 5 HOSTS that are UP, 6 TARGETS, 7 what can be undone");
+        Check.says(24, HOW_MANY);
         HostPacker x = Make.many(10, 24);
         for (int i = 0; i < 24; i++) {
             Make.plain(x, 1, 0);
@@ -255,7 +282,7 @@ final class UndoEdges {
     }
 
     private static void countEach() {
-        Check.says(24, "How many: 0 HOSTS, 1 JOBS, 2 that WAIT, 3 STAND, 4 have ENDED, 5 HOSTS that are UP, 6 TARGETS, 7 what can be undone");
+        Check.says(24, HOW_MANY);
         HostPacker x = Make.hosts(9, 9);
         Make.standing(x, 0, 9, 0, 0, 0, 0);
         Make.standing(x, 3, 9, 0, 0, 0, 1);
