@@ -268,6 +268,16 @@ final class HostAnswersEdges {
         Check.due("one of two", x.why(scared, 0), 8);
         x.end(4);
         Check.due("none", x.why(scared, 0), 0);
+        x.undo();
+        Check.due("one again", x.why(scared, 0), 8);
+        x.undo();
+        x.undo();
+        x.undo();
+        Check.due("its placing is undone", x.why(Make.job(x, 0, 0, 0, 5, 0, Make.ANY), 0), 8);
+        x.undo();
+        x.undo();
+        x.undo();
+        Check.due("that of both", x.why(Make.job(x, 0, 0, 0, 5, 0, Make.ANY), 0), 0);
     }
 
     private static void whyFirst() {

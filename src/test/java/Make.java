@@ -139,6 +139,7 @@ final class Make {
         job(x, 0, 0, 0, 7, 0, ANY);
         job(x, 5, 0, 0, 0, 0, ANY);
         job(x, 2, 0, 0, 3, 0, on(1));
+        job(x, 0, 0, 0, 6, 0, ANY);
         x.target(2, 1);
         x.target(5, 1);
         Check.due("a plan", x.plan(), 1);
