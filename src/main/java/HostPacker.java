@@ -869,7 +869,16 @@ public final class HostPacker {
         }
 
         int hostIn(int code, int k) {
-            return code / POWERS[k] % 10;
+            int rest = code;
+            for (int i = 0; i < k; i++) {
+                rest /= 10;
+            }
+            return rest % 10;
+        }
+
+        /** From which code a seen one was first reached. */
+        int before(int code) {
+            return isBelow(code, CODES) ? from[code] : code;
         }
 
         /** Starts a search: only where the crew is now has been seen. */
@@ -1077,7 +1086,7 @@ public final class HostPacker {
             steps = moves;
             int code = goal;
             for (int i = moves - 1; i >= 0; i--) {
-                int before = crew.from[code];
+                int before = crew.before(code);
                 for (int k = 0; k < crew.size; k++) {
                     if (crew.hostIn(before, k) != crew.hostIn(code, k)) {
                         stepJob[i] = crew.member[k];

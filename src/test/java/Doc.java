@@ -21,17 +21,29 @@ final class Doc {
     private Doc() {
     }
 
-    private static Map<Integer, String> read() {
-        Map<Integer, String> sections = new HashMap<>();
+    private static String text() {
         try {
-            for (String part : Files.readString(FILE).split("(?m)^## ")) {
-                int line = part.indexOf('\n');
-                if (line > 0) {
-                    sections.put(number(part.substring(0, line)), plain(part.substring(line)));
-                }
-            }
+            return Files.readString(FILE);
         } catch (IOException e) {
             throw new UncheckedIOException(e);
+        }
+    }
+
+    /** The lines of Java in which the document shows the public face. */
+    static String codeBlock() {
+        String text = text();
+        int start = text.indexOf("```java");
+        int end = text.indexOf("```", start + 3);
+        return start < 0 || end < 0 ? "" : text.substring(start, end);
+    }
+
+    private static Map<Integer, String> read() {
+        Map<Integer, String> sections = new HashMap<>();
+        for (String part : text().split("(?m)^## ")) {
+            int line = part.indexOf('\n');
+            if (line > 0) {
+                sections.put(number(part.substring(0, line)), plain(part.substring(line)));
+            }
         }
         return sections;
     }
